@@ -36,7 +36,7 @@ public final class BronzeDown {
     // Every question of what would be is asked of this one, never of now.
     private final Course thought = new Course();
     private final Sheet[] sheets = new Sheet[SHEETS];
-    private final Reader reader = new Reader(now.tape);
+    private final Reader reader = new Reader();
     private final Voices voices = new Voices();
     private final int[] errors = new int[KINDS_OF_ERRORS + 1];
 
@@ -200,7 +200,7 @@ public final class BronzeDown {
         if (!within(use, 0, 1)) {
             return fails(BEYOND);
         }
-        int fault = reader.read(use);
+        int fault = reader.read(now.tape, use);
         now.tape.clear();
         if (fault >= 0) {
             return -10 - fault;
@@ -933,25 +933,22 @@ public final class BronzeDown {
         private static final int MOST_OPEN = 5;
         private static final int MOST_DIGITS = 4;
 
-        private final Row tape;
+        private final Row signs = new Row(TAPE_ROOM);
         private final Law law = new Law();
         private int use = 0;
         private int at = 0;
         private boolean faulty = false;
 
-        Reader(Row tape) {
-            this.tape = tape;
-        }
-
         /** The FAULT; -1: there is none, and the law is what was read. */
-        int read(int newUse) {
+        int read(Row tape, int newUse) {
+            signs.copyFrom(tape);
             use = newUse;
             at = 0;
             faulty = false;
             law.isThere = true;
             law.marks.clear();
             readLevel(0, 0);
-            faulty = faulty || at < tape.size;
+            faulty = faulty || at < signs.size;
             return faulty ? at : -1;
         }
 
@@ -1010,7 +1007,7 @@ public final class BronzeDown {
 
         /** The byte that is due; -1 behind the last. */
         private int next() {
-            return tape.has(at) ? tape.at(at) : -1;
+            return signs.has(at) ? signs.at(at) : -1;
         }
 
         private static boolean isDigit(int sign) {

@@ -291,6 +291,11 @@ public final class PromiseTests {
             }
         }
         due("12: loud stays", x.ofVisitor(0, 2), 4);
+        due("12: every stays", x.ofVisitor(0, 3), 5);
+        due("12: the least km", x.become(0, 0), 0);
+        due("12: m", x.ofVisitor(0, 1), 0);
+        due("12: the most km", x.become(0, 69), 0);
+        due("12: m", x.ofVisitor(0, 1), 9);
         due("12: no such km", x.become(0, 70), BEYOND);
         due("12: no such km", x.become(0, -1), BEYOND);
         due("12: no such visitor", x.become(1, 0), BEYOND);
@@ -333,11 +338,13 @@ public final class PromiseTests {
         String[] texts = {"w", "h", "l", "1+2*3", "(1+2)*3", "20-3-4", "20/3/2", "19%7%3", "2*3%4", "17/5*2",
             "!0", "!7", "!!7", "!0+4", "!(w=7)", "1|0", "0|0", "5&2", "5&0", "0&1|1", "1|1&0", "3<4", "4<3", "3>2",
             "2=2", "2=3", "w<h|h<w", "1+1=2", "(1<2)<3", "1/0", "5%0", "(0-7)/2+9", "(0-7)%4+9", "0012", "9999/500",
-            "(((((8)))))", "!!!!!0", "!(!(!0))", "(!(!0)+1)*9", "5|6+1", "7&8+0", "3*(2|5)"};
+            "(((((8)))))", "!!!!!0", "!(!(!0))", "(!(!0)+1)*9", "5|6+1", "7&8+0", "3*(2|5)", "2&1", "1&2", "2|0",
+            "0|2", "7<7", "7>7", "6>7", "7=7"};
         int[] worths = {7, 3, 11, 7, 9, 13, 3, 2, 2, 6,
             1, 0, 1, 5, 0, 1, 0, 1, 0, 1, 1, 1, 0, 1,
             1, 0, 1, 1, 1, 0, 0, 6, 6, 12, 19,
-            8, 1, 1, 9, 1, 1, 3};
+            8, 1, 1, 9, 1, 1, 3, 1, 1, 1,
+            1, 0, 0, 0, 1};
         for (int i = 0; i < texts.length; i++) {
             due("15: what " + texts[i] + " gives", worth(texts[i]), worths[i]);
         }
@@ -463,6 +470,13 @@ public final class PromiseTests {
         due("17: none more", x.years(1), STATE);
         due("18: none more", x.loose(1), STATE);
         due("19: but in thought", x.then(60, 1), 99);
+
+        BronzeDown y = new BronzeDown();
+        for (int i = 0; i < 166; i++) {
+            y.years(60);
+        }
+        due("18: up to the last", y.loose(39), 99);
+        due("18: the last", y.count(1), 9999);
     }
 
     private static void loose() {
@@ -568,6 +582,13 @@ public final class PromiseTests {
         }
         due("22: only thought", x.ofVisitor(0, 2), 9);
         due("22: edges", x.loudFor(0, 60, 99), 0);
+        BronzeDown y = new BronzeDown();
+        y.visitor(10, 0, 1);
+        Due.read(y, 0, "9");
+        Due.read(y, 1, "w");
+        y.figure(0, 0);
+        due("22: as loud as can be", y.loudFor(0, 1, 0), 9);
+        due("22: almost", y.loudFor(0, 1, 1), 8);
     }
 
     private static void everyFor() {
@@ -586,19 +607,17 @@ public final class PromiseTests {
             due("23: by " + n, x.everyFor(0, n), best);
         }
         BronzeDown y = new BronzeDown();
-        y.visitor(10, 9, 1);
-        y.figure(0, 39);
-        y.years(5);
-        y.figure(0, 15);
+        y.visitor(10, 1, 1);
+        y.years(1);
         Due.read(y, 0, "0");
-        due("23: not the first", y.everyFor(0, 1), 1);
-        y.years(1);
-        y.figure(0, 15);
-        due("23: several: the least", y.everyFor(0, 1), 1);
-        y.years(1);
-        y.figure(0, 15);
-        Due.read(y, 1, "w<9");
-        due("23: one that doesn't come in the year 7", y.everyFor(0, 1), 2);
+        y.figure(0, 9);
+        y.figure(1, 0);
+        due("23: several: the least", y.everyFor(0, 0), 1);
+        Due.read(y, 1, "9-w");
+        due("23: one that doesn't come in the year 1", y.everyFor(0, 1), 2);
+        due("23: nor in the years 2, 3", y.everyFor(0, 3), 4);
+        due("23: nor in the years to 10", y.everyFor(0, 10), 11);
+        due("23: nor in the year 11", y.everyFor(0, 11), 12);
         due("23: only thought", y.ofVisitor(0, 3), 1);
         due("23: no such visitor", y.everyFor(1, 0), BEYOND);
         due("23: no such visitor", y.everyFor(-1, 0), BEYOND);
@@ -616,6 +635,10 @@ public final class PromiseTests {
         due("24: now none is of use", x.needless(0), 15);
         x.years(1);
         due("24: the third doesn't come", x.needless(6), 13);
+        BronzeDown y = new BronzeDown();
+        y.visitor(10, 9, 1);
+        due("24: one alone that keeps it", y.needless(20), 0);
+        due("24: it comes again behind", y.then(20, 1), 1 - 1);
         due("24: below", x.needless(-1), BEYOND);
         due("24: above", x.needless(61), BEYOND);
         due("24: only thought", x.count(0), 4);
@@ -635,6 +658,18 @@ public final class PromiseTests {
         due("25: at the top", x.wanted(0, 0), 13);
         due("25: at the top", x.wanted(0, 1), 87);
         Due.fill(x, 0, 16, 9, 17);
+        due("25: none", x.wanted(0, 0), 0);
+        Due.read(x, 0, "0");
+        Due.fill(x, 0, 16, 1, 2);
+        Due.read(x, 1, "w=7");
+        due("25: just one", x.wanted(0, 0), 1);
+        due("25: just one", x.wanted(0, 1), 7);
+        Due.read(x, 1, "w>97");
+        due("25: just two", x.wanted(0, 0), 2);
+        due("25: just two", x.wanted(0, 1), 98);
+        Due.read(x, 1, "w=99");
+        due("25: the last", x.wanted(0, 1), 99);
+        Due.fill(x, 0, 16, 0, 1);
         due("25: none", x.wanted(0, 0), 0);
         due("25: none", x.wanted(0, 1), NONE);
         x.sheet(0, 8, 0);
@@ -706,6 +741,9 @@ public final class PromiseTests {
         due("28: of 3", x.exact(), 2);
         x.step(2, 1, 0);
         due("28: of 3 without 2", x.exact(), 1);
+        x.step(1, 1, 0);
+        x.figure(3, 1);
+        due("28: of 1 without 1", x.exact(), 0);
         x.figure(3, 60);
         due("28: too high", x.exact(), 0);
         x.figure(3, 0);
@@ -740,6 +778,16 @@ public final class PromiseTests {
         Due.fill(x, 0, 32, 1, 1, 0);
         due("29: nothing is next over the edge", x.house(0, 0), 3);
         due("29: the first of these", x.house(0, 1), 57);
+        BronzeDown y = new BronzeDown();
+        y.trees(4, 16);
+        Due.fill(y, 0, 8, 0, 0, 1);
+        due("29: next to a tree over a corner", y.house(0, 0), 4);
+        due("29: next to a tree over a corner", y.house(0, 1), 27);
+        Due.fill(y, 0, 8, 0, 1, 1);
+        due("29: above and below it", y.house(0, 0), 2);
+        due("29: above and below it", y.house(0, 1), 28);
+        Due.fill(y, 0, 8, 1, 1, 0);
+        due("29: on it", y.house(0, 1), 36);
         Due.fill(x, 0, 32, 2, 2, 2, 2);
         due("29: tells too much", x.house(0, 0), 0);
         due("29: tells too much", x.house(0, 1), NONE);
@@ -778,6 +826,15 @@ public final class PromiseTests {
         }
         due("30: of eight", x.power(0), 10 * 1680);
         due("30: of eight", x.power(7), 0);
+        for (int i = 0; i < 7; i++) {
+            x.change(i, 0, 0);
+        }
+        x.change(7, 0, 1);
+        due("30: alone", x.power(7), 40320);
+        for (int i = 0; i < 8; i++) {
+            x.change(i, 0, 9);
+        }
+        due("30: all alike", x.power(7), 5040);
     }
 
     private static void gait() {
@@ -832,10 +889,10 @@ public final class PromiseTests {
         due("33: z", x.count(10), 5);
     }
 
-    /** By KIND and act: what it says of 5, being number 1 with m 3, and the BODIES. */
+    /** By KIND and act: what it says of 5, being number 1 with m 2, and the BODIES. */
     private static void voice() {
-        int[][] says = {{6, 12, 2, 14}, {18, 36, 2, 38}, {6, 14, 2, 12}, {6, 12, -2, -14}, {18, 36, 2, 29},
-            {6, 16, 2, 18}, {6, 12, -1, 25}};
+        int[][] says = {{6, 12, 3, 15}, {18, 36, 3, 39}, {6, 13, 3, 14}, {6, 12, -3, -15}, {18, 36, 3, 30},
+            {6, 15, 3, 12}, {6, 12, -4, 28}};
         String[] bodies = {"10 / 11 10 / 12 / 13 11 10 12",
             "20 10 / 11 20 10 / 12 / 13 11 20 10 12",
             "10 / 30 11 10 12 / 12 / 13 30 11 10 12 12",
@@ -847,7 +904,7 @@ public final class PromiseTests {
         x.visitor(0, 0, 1);
         x.visitor(0, 0, 1);
         for (int kind = 0; kind < 7; kind++) {
-            x.become(1, 10 * kind + 3);
+            x.become(1, 10 * kind + 2);
             String[] rows = bodies[kind].split(" / ");
             for (int act = 0; act < 4; act++) {
                 due("34: a " + kind + " by " + act, x.voice(1, act, 5), says[kind][act]);
@@ -898,8 +955,10 @@ public final class PromiseTests {
         due("36: far above", x.sheet(0, 8, MOST), BEYOND);
         due("36: an error leaves it", x.put(0, 39, 1), 1);
         due("36: no more", x.put(0, 40, 1), BEYOND);
-        x.sheet(0, 8, 40);
-        due("36: all 0", x.put(0, 39, 1) + x.talls(0), 1 + 10);
+        Due.fill(x, 0, 8, 5, 5, 5);
+        x.sheet(0, 8, 3);
+        due("36: all 0", tallsOf(x, 0), 0);
+        due("36: so many", x.talls(0), 3);
         due("36: missing, n doesn't matter", x.sheet(0, 0, -5), 1);
         due("36: missing", x.put(0, 0, 1), NONE);
         due("36: missing, n doesn't matter", x.sheet(1, 0, 77), 1);
