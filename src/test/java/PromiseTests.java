@@ -618,6 +618,11 @@ public final class PromiseTests {
         due("23: nor in the years 2, 3", y.everyFor(0, 3), 4);
         due("23: nor in the years to 10", y.everyFor(0, 10), 11);
         due("23: nor in the year 11", y.everyFor(0, 11), 12);
+        Due.read(y, 1, "w<9");
+        y.figure(1, 98);
+        due("23: by lean as great as can be", y.everyFor(0, 1), 2);
+        y.figure(1, 99);
+        due("23: by lean that can't be more", y.everyFor(0, 1), 1);
         due("23: only thought", y.ofVisitor(0, 3), 1);
         due("23: no such visitor", y.everyFor(1, 0), BEYOND);
         due("23: no such visitor", y.everyFor(-1, 0), BEYOND);
