@@ -175,6 +175,8 @@ public final class RefusalTests {
         Due.due("none, what 1", c.ask("stair", 1), NONE);
         Due.due("none, but BEYOND is asked ahead", c.ask("stair", 2), BEYOND);
         Due.due("none, but BEYOND is asked ahead", c.ask("stair", -1), BEYOND);
+        Due.due("NONE told", c.ask("told", 2), 2);
+        Due.due("BEYOND told", c.ask("told", 1), 2);
         Due.says("P30", "POWER. BEYOND.");
         limits(FULL, "power", row(3), row(0, 7));
         Due.says("P31", "GAIT. BEYOND.");
@@ -232,7 +234,7 @@ public final class RefusalTests {
                 refused(FULL, BEYOND, "sheet", sheet, bits, MOST);
             }
             for (int n : new int[] {LEAST, -1, 0, 40, 41, MOST}) {
-                fits(FULL, "sheet", sheet, 0, n);
+                Due.due("missing, n " + n, States.of(FULL).ask("sheet", sheet, 0, n), 1);
             }
         }
         for (int bits : new int[] {-8, -1, 1, 7, 9, 15, 17, 24, 31, 33, 64, 256 + 8, LEAST, MOST}) {

@@ -80,8 +80,15 @@ final class Seen {
         ask("law", 1, 60, 2, 4);
     }
 
-    /** By moves that move nothing; then the numbers come to TALL of STEPS, ten at once. */
+    /** The numbers first, for what else is asked of a SHEET may be refused. */
     private void sheets() {
+        for (int sheet = 0; sheet < 4; sheet++) {
+            boolean goesOn = talls(sheet) == 10;
+            for (int from = 10; from < 40 && goesOn; from += 10) {
+                ask("move", sheet, from, sheet, 0, 10);
+                talls(sheet);
+            }
+        }
         int[] sizes = {0, 1, 4, 5, 40, 41};
         for (int sheet = 0; sheet < 4; sheet++) {
             for (int other = 0; other < sheet; other++) {
@@ -90,20 +97,15 @@ final class Seen {
             for (int size : sizes) {
                 ask("move", sheet, 0, sheet, 0, size);
             }
-            for (int from = 0; c.ask("move", sheet, from, sheet, 0, 1) == 1; from += 10) {
-                if (c.ask("move", sheet, from, sheet, 0, 10) != 10) {
-                    talls(sheet);
-                    break;
-                }
-                talls(sheet);
-            }
         }
     }
 
-    private void talls(int sheet) {
+    /** The first ten numbers, by way of TALL of STEPS. */
+    private int talls(int sheet) {
         int many = ask("talls", sheet);
         for (int i = 0; i < many; i++) {
             ask("ofStep", i, 0);
         }
+        return many;
     }
 }

@@ -96,6 +96,7 @@ public final class SheetEdgeTests {
                 says(0, n, m, 0, 5, 5 + n);
                 says(0, n, m, 2, 5, 5 - m);
                 says(6, n, m, 2, 5, m - 5 ^ n);
+                says(6, n, m, 3, 5, 2 * (5 + n) - (2 * (5 + n) ^ (m - 5 ^ n)));
                 says(2, n, m, 1, 5, 2 * (5 + n) - (1 - m));
                 says(4, n, m, 3, 5, (6 * (5 + n) ^ 5 - m) - 3 * (2 + n));
             }
@@ -443,15 +444,42 @@ public final class SheetEdgeTests {
             c.ask("visitor", 10, 9, 1);
             c.ask("trees", i, 255);
         }
+        for (int s = 0; s < 10; s++) {
+            c.ask("step", s, 0, 9 - s);
+            c.ask("step", s, 1, 99);
+        }
+        for (int s = 0; s < 6; s++) {
+            c.ask("season", s, 0, 9);
+            c.ask("season", s, 1, 9);
+        }
+        c.ask("figure", 3, 60);
+        c.ask("figure", 4, 15);
+        c.ask("seed", 0);
         c.write(States.FIFTY);
         for (int i = 0; i < 20; i++) {
             c.ask("tell", i);
         }
         c.ask("years", 9);
         Due.due("YEAR", c.ask("restore"), 0);
+        asAtFirst(c);
+    }
+
+    private static void asAtFirst(Calls c) {
         int[] counts = {0, 0, 10, 0, 0, 0, 0, 0, 0, 0, 1};
         for (int what = 0; what < counts.length; what++) {
             Due.due("count " + what, c.ask("count", what), counts[what]);
+        }
+        int[] figure = {10, 0, 0, 20, 1, 40, 3, 1};
+        for (int what = 0; what < figure.length; what++) {
+            Due.due("figure " + what, c.ask("ofFigure", what), figure[what]);
+        }
+        for (int s = 0; s < 10; s++) {
+            Due.due("TALL", c.ask("ofStep", s, 0), s);
+            Due.due("BEARS", c.ask("ofStep", s, 1), 50);
+        }
+        for (int s = 0; s < 6; s++) {
+            Due.due("HEAT", c.ask("ofSeason", s, 0), 3);
+            Due.due("RAIN", c.ask("ofSeason", s, 1), s);
         }
         Due.due("no TEXT", c.ask("law", 0, 0, 4, 0), 4);
         Due.due("no TEXT", c.ask("law", 1, 44, 0, 0), 4);

@@ -374,30 +374,35 @@ public final class TextEdgeTests {
         gives("1/0/0%0", 0, 0, 0, 0);
     }
 
+    /** 5 more, so that a number below 0 isn't held at 0. */
+    private static void isSo(String signs, int a, int b, boolean so) {
+        gives("5+(" + signs + ")", a, b, 0, so ? 6 : 5);
+    }
+
     private static void truth() {
         Due.says("T2", "| & < = > ! are 1 or 0, what is not 0 being true");
         for (int w : new int[] {LEAST, -2, -1, 0, 1, 2, 256, 65536, MOST}) {
-            int so = w == 0 ? 0 : 1;
-            gives("!w", w, 0, 0, 1 - so);
-            gives("!!w", w, 0, 0, so);
-            gives("w|0", w, 0, 0, so);
-            gives("0|w", w, 0, 0, so);
-            gives("w|w", w, 0, 0, so);
-            gives("w&7", w, 0, 0, so);
-            gives("7&w", w, 0, 0, so);
-            gives("w&0", w, 0, 0, 0);
-            gives("w|7", w, 0, 0, 1);
-            gives("w<0", w, 0, 0, w < 0 ? 1 : 0);
-            gives("w>0", w, 0, 0, w > 0 ? 1 : 0);
-            gives("w=0", w, 0, 0, 1 - so);
+            boolean so = w != 0;
+            isSo("!w", w, 0, !so);
+            isSo("!!w", w, 0, so);
+            isSo("w|0", w, 0, so);
+            isSo("0|w", w, 0, so);
+            isSo("w|w", w, 0, so);
+            isSo("w|7", w, 0, true);
+            isSo("w&7", w, 0, so);
+            isSo("7&w", w, 0, so);
+            isSo("w&0", w, 0, false);
+            isSo("w<0", w, 0, w < 0);
+            isSo("w>0", w, 0, w > 0);
+            isSo("w=0", w, 0, !so);
         }
-        gives("w<h", LEAST, MOST, 0, 1);
-        gives("w>h", LEAST, MOST, 0, 0);
-        gives("w<h", MOST, LEAST, 0, 0);
-        gives("w>h", MOST, LEAST, 0, 1);
-        gives("w<h", MOST, MOST, 0, 0);
-        gives("w>h", MOST, MOST, 0, 0);
-        gives("w=h", MOST, LEAST, 0, 0);
+        for (int w : new int[] {LEAST, -1, 0, 1, MOST}) {
+            for (int h : new int[] {LEAST, -1, 0, 1, MOST}) {
+                isSo("w<h", w, h, w < h);
+                isSo("w=h", w, h, w == h);
+                isSo("w>h", w, h, w > h);
+            }
+        }
     }
 
     private static void allIsWorkedOut() {
@@ -405,6 +410,8 @@ public final class TextEdgeTests {
         gives("1|1/0", 0, 0, 0, 1);
         gives("0&1/0", 0, 0, 0, 0);
         gives("0|1|0&1", 0, 0, 0, 1);
+        gives("1|0&0", 0, 0, 0, 1);
+        gives("1|0&1/0", 0, 0, 0, 1);
         gives("(1|1)+(0&0)+(1&1)", 0, 0, 0, 2);
     }
 

@@ -192,6 +192,11 @@ public final class ThoughtEdgeTests {
         Due.due("the oftenest", c.ask("everyFor", 0, 11), 1);
         c.ask("figure", 1, 99);
         Due.due("of several the least, LEAN being as great as can be", c.ask("everyFor", 0, 60), 1);
+        c.read(1, "w<9");
+        c.ask("figure", 0, 9);
+        Due.due("LEAN 99 by each", c.ask("everyFor", 0, 1), 1);
+        c.ask("figure", 1, 98);
+        Due.due("LEAN 98 but by 1", c.ask("everyFor", 0, 1), 2);
         c.ask("figure", 1, 0);
         c.read(1, "0");
         Due.due("of several the least", c.ask("everyFor", 0, 60), 1);
@@ -229,6 +234,9 @@ public final class ThoughtEdgeTests {
         c.ask("figure", 0, 9);
         Due.due("LEAN can be", c.ask("needless", 1), 0);
         Due.due("all stay", c.ask("count", 0), 8);
+        c.ask("figure", 1, 0);
+        c.read(1, "9-w");
+        Due.due("LEAN is less without each", c.ask("needless", 1), 255);
         Calls g = still("0", "w/7");
         g.ask("visitor", 60, 9, 1);
         g.ask("visitor", 10, 1, 1);
@@ -493,7 +501,11 @@ public final class ThoughtEdgeTests {
         for (int row = 0; row < 8; row++) {
             all.ask("trees", row, 255);
         }
+        dueHouse(all, 64, 0, 8);
+        dueHouse(all, 0, Due.NONE, 7);
+        dueHouse(all, 0, Due.NONE, 9);
         dueHouse(all, 64, 0, 8, 8);
+        dueHouse(all, 0, Due.NONE, 8, 7);
         dueHouse(all, 36, 9, 8, 8, 8);
         dueHouse(all, 24, 1, 8, 8, 5);
         dueHouse(all, 4, 0, 8, 8, 3);
@@ -600,6 +612,11 @@ public final class ThoughtEdgeTests {
                 Due.due("above, odds(" + b[0] + ", " + b[1] + ")", c.ask("odds", b[0], b[1], 0), b[2]);
                 Due.due("below, odds(" + b[0] + ", " + b[1] + ")", c.ask("odds", b[0], b[1], 1), b[3]);
             }
+            c.read(1, "w%10+w/91");
+            Due.due("by tens alone, to 90", c.ask("odds", 1, 1, 1), 1);
+            Due.due("by tens alone, to 90", c.ask("odds", 1, 0, 0), 0);
+            c.ask("figure", 0, 55);
+            Due.due("whatever WANT is now", c.ask("odds", 1, 1, 1), 1);
         }
     }
 }
